@@ -203,7 +203,7 @@ public final class PlayCompany {
     }
 
     public int held(int holder, int day) {
-        return ledger.isHolder(holder) ? ledger.itemsWith(holder, day) : 0;
+        return ledger.itemsWith(holder, day);
     }
 
     public int feed(int a, int b, int c, int d, int e) {
