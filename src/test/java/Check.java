@@ -1,14 +1,25 @@
 /** Counts and prints the calls whose answer is not the one that is due. */
 final class Check {
     private static int wrong = 0;
+    private static String sentence = "";
 
     private Check() {
     }
 
+    /** The test of one sentence of the document: what goes wrong in it is told behind the sentence. */
+    static void sentence(String words, Runnable test) {
+        sentence = "[" + words + "] ";
+        try {
+            test.run();
+        } catch (RuntimeException e) {
+            fail("threw " + e);
+        }
+        sentence = "";
+    }
+
     static void due(String call, long got, long want) {
         if (got != want) {
-            wrong++;
-            System.out.println(call + " answered " + got + ", due is " + want);
+            fail(call + " answered " + got + ", due is " + want);
         }
     }
 
@@ -82,9 +93,43 @@ final class Check {
         due("count(6) behind terms()", x.count(6), 0);
     }
 
+    /** What the calls that only ask tell of an object: some 70 calls where there are two actors, and plays with five roles. */
+    static String stateOf(PlayCompany x) {
+        StringBuilder state = new StringBuilder();
+        for (int i = 0; i < 8; i++) {
+            state.append(" count").append(i).append('=').append(x.count(i));
+            state.append(" hand").append(i).append('=').append(x.hand(i));
+            state.append(" order").append(i).append('=').append(x.order(i));
+        }
+        state.append(" playable=").append(x.playable()).append(" fill=").append(x.fill(1000)).append(" broken=").append(x.broken(0));
+        for (int holder = -2; holder < 12; holder++) {
+            state.append(" held").append(holder).append('=').append(x.held(holder, 0));
+        }
+        for (int actor = 0; actor < x.count(0); actor++) {
+            state.append(" may").append(actor).append('=').append(x.may(actor, 0));
+            for (int what = 0; what < 8; what++) {
+                state.append(" about").append(actor).append(',').append(what).append('=').append(x.about(actor, 0, what));
+            }
+            for (int play = 0; play < x.count(1); play++) {
+                for (int role = 0; role < 8 && x.can(actor, play, role) != PlayCompany.NONE; role++) {
+                    state.append(" can").append(actor).append(',').append(play).append(',').append(role);
+                    state.append('=').append(x.can(actor, play, role));
+                }
+            }
+        }
+        return state.toString();
+    }
+
+    static void dueState(PlayCompany x, String want) {
+        String got = stateOf(x);
+        if (!got.equals(want)) {
+            fail("the state is" + got + "\n    but due is" + want);
+        }
+    }
+
     static void fail(String what) {
         wrong++;
-        System.out.println(what);
+        System.out.println(sentence + what);
     }
 
     static void finish() {

@@ -9,7 +9,10 @@ import java.util.TreeSet;
 public final class ModelTest {
     private static final int RUNS = 1500;
     private static final int CALLS = 500;
+    // What an object answers behind its 512th call is free, so a run ends before; one text takes some 45 calls.
+    private static final int MOST_SPENT = 512 - 45;
     private static long seed;
+    private static int spent;
 
     public static void main(String[] args) {
         for (int run = 0; run < RUNS; run++) {
@@ -40,7 +43,8 @@ public final class ModelTest {
         Model m = new Model();
         int kinds = 1 + pick(12);
         int calls = 1 + pick(CALLS);
-        for (int call = 0; call < calls; call++) {
+        spent = 0;
+        for (int call = 0; call < calls && spent <= MOST_SPENT; call++) {
             String name = "run " + run + ", call " + call + ": ";
             switch (pick(12)) {
                 case 0: case 1: case 2: build(name, x, m, kinds); break;
@@ -106,6 +110,7 @@ public final class ModelTest {
     }
 
     private static void build(String run, PlayCompany x, Model m, int kinds) {
+        spent++;
         int play = near(m.plays.size());
         int roles = m.isPlay(play) ? m.plays.get(play).roles.size() : 1;
         switch (pick(8)) {
@@ -134,6 +139,7 @@ public final class ModelTest {
     }
 
     private static void people(String run, PlayCompany x, Model m, int kinds) {
+        spent++;
         int actor = near(m.actors.size());
         switch (pick(6)) {
             case 0: {
@@ -156,6 +162,7 @@ public final class ModelTest {
     }
 
     private static void casts(String run, PlayCompany x, Model m) {
+        spent += 11;
         int play = near(m.plays.size());
         switch (pick(4)) {
             case 0: {
@@ -192,6 +199,7 @@ public final class ModelTest {
                 if (Integer.bitCount(set) > 6 && pick(20) > 0) {
                     return;
                 }
+                spent += 11;
                 Check.due(run + "week(" + set + ")", x.week(set), m.week(set));
                 for (int i = -1; i <= 8; i++) {
                     Check.due(run + "order(" + i + ")", x.order(i), m.order(i));
@@ -204,6 +212,7 @@ public final class ModelTest {
                         return;
                     }
                 }
+                spent += 2;
                 Check.due(run + "playable()", x.playable(), m.playable());
                 int minutes = near(1001);
                 Check.due(run + "fill(" + minutes + ")", x.fill(minutes), m.fill(minutes));
@@ -215,6 +224,7 @@ public final class ModelTest {
     }
 
     private static void things(String run, PlayCompany x, Model m) {
+        spent++;
         int item = pick(3) == 0 ? near(20) : pick(3);
         int day = pick(2) == 0 ? pick(20) : someDay();
         int holder = pick(5) == 0 ? pick(17) - 4 : pick(4) - 2;
@@ -241,6 +251,7 @@ public final class ModelTest {
 
     private static void text(String run, PlayCompany x, Model m) {
         if (pick(8) == 0) {
+            spent += 2;
             int[] five = {pick(1 << 30), 0x6d617920, 0x69662067, 0x75657374, 0x3b202020};
             Check.due(run + "feed(..)", x.feed(five[0], five[1], five[2], five[3], five[4]), m.feed(five));
             int n = near(m.tape.length() + 2);
@@ -258,6 +269,7 @@ public final class ModelTest {
         if (text.length() > 760) {
             return;
         }
+        spent += 6 + text.length() / 20;
         if (m.tape.length() > 0) {
             x.end(0);
             m.end(0);
@@ -329,6 +341,7 @@ public final class ModelTest {
     }
 
     private static void questions(String run, PlayCompany x, Model m) {
+        spent += 4;
         int actor = near(m.actors.size()), day = someDay(), what = near(8);
         Check.due(run + "may(..)", x.may(actor, day), m.may(actor, day));
         Check.due(run + "broken(..)", x.broken(day), m.broken(day));
