@@ -14,6 +14,7 @@ public final class ActorsEdgesTest {
         Check.sentence("1: of each KIND a GRADE (0 at first)", ActorsEdgesTest::gradeZeroAtFirst);
         Check.sentence("3: a GRADE of an ACTOR", ActorsEdgesTest::gradeIsThatActorsAndKinds);
         Check.sentence("3: a GRADE takes the place of the former", ActorsEdgesTest::gradeIsReplaced);
+        Check.sentence("3: a GRADE of an ACTOR who is not IN", ActorsEdgesTest::gradeOfOneWhoIsAway);
         Check.sentence("3: False: no such ACTOR", ActorsEdgesTest::playsWithoutActor);
         Check.sentence("3: False: no such KIND", ActorsEdgesTest::playsWithoutKind);
         Check.sentence("3: False: no such GRADE", ActorsEdgesTest::playsWithoutGrade);
@@ -180,6 +181,16 @@ public final class ActorsEdgesTest {
             Check.dueAbout(x, 0, 0, 3, grade);
             Check.due("can with grade " + grade, x.can(0, 0, 0), grade > 0 ? 1 : 0);
         }
+    }
+
+    private static void gradeOfOneWhoIsAway() {
+        PlayCompany x = company(1, 1);
+        x.comes(0, false);
+        Check.due("plays(0, 0, 5)", x.plays(0, 0, 5), true);
+        Check.dueAbout(x, 0, 0, 3, 5);
+        Check.due("away", x.can(0, 0, 0), 0);
+        x.comes(0, true);
+        Check.due("in", x.can(0, 0, 0), 1);
     }
 
     private static void playsWithoutActor() {

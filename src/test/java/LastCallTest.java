@@ -8,6 +8,8 @@ public final class LastCallTest {
         Check.sentence("512 calls: week", LastCallTest::weeks);
         Check.sentence("512 calls: fact, where and held", LastCallTest::facts);
         Check.sentence("512 calls: feed and terms", LastCallTest::texts);
+        Check.sentence("512 calls: the fullest texts, one in place of the other", LastCallTest::fullestTexts);
+        Check.sentence("512 calls: the fullest texts with a fault", LastCallTest::fullestFaults);
         Check.sentence("512 calls: refused ones", LastCallTest::refused);
         Check.finish();
     }
@@ -95,6 +97,41 @@ public final class LastCallTest {
             Check.due("feed(..)", y.feed(0, 0, 0, 0, 0), -1);
             Check.due("terms()", y.terms(), 1);
         }
+    }
+
+    /** As many comparisons as 800 bytes hold. */
+    private static String fullest(String last) {
+        StringBuilder text = new StringBuilder("pay 1if fee<1");
+        while (text.length() + 8 + last.length() <= 800) {
+            text.append("or fee<1");
+        }
+        return text.append(last).toString();
+    }
+
+    private static void fullestTexts() {
+        PlayCompany x = new PlayCompany();
+        x.actor(1, 0, 0, false);
+        for (int round = 0; round < 11; round++) {
+            Check.dueTerms(x, fullest("or fee>=1;"), 0);
+            Check.dueAbout(x, 0, 0, 7, 1);
+        }
+        PlayCompany y = new PlayCompany();
+        y.actor(1, 0, 0, false);
+        for (int round = 0; round < 11; round++) {
+            Check.dueTerms(y, fullest(";"), 0);
+            Check.dueAbout(y, 0, 0, 7, 0);
+        }
+    }
+
+    private static void fullestFaults() {
+        PlayCompany x = new PlayCompany();
+        x.actor(1, 0, 0, false);
+        for (int round = 0; round < 10; round++) {
+            String text = fullest("or");
+            Check.dueTerms(x, text, 1 + 16 * text.length());
+        }
+        Check.dueTerms(x, fullest("or fee>=1;"), 0);
+        Check.dueAbout(x, 0, 0, 7, 1);
     }
 
     private static void refused() {

@@ -10,6 +10,7 @@ public final class TapeEdgesTest {
         Check.sentence("20: come behind the TAPE", TapeEdgesTest::behindTheTape);
         Check.sentence("20: NONE if these would be more than 800", TapeEdgesTest::moreThan800);
         Check.sentence("21: the TAPE has its first n bytes alone: n", TapeEdgesTest::firstBytesAlone);
+        Check.sentence("21: its first n bytes alone: a TOKEN that is cut", TapeEdgesTest::cutTokens);
         Check.sentence("21: NONE if it has less", TapeEdgesTest::hasLess);
         Check.sentence("21: NONE if n is below 0", TapeEdgesTest::belowZero);
         Check.sentence("22: it is empty then", TapeEdgesTest::emptyThen);
@@ -124,6 +125,33 @@ public final class TapeEdgesTest {
         Check.due("a byte too few", x.terms(), fault(1, 7));
     }
 
+    private static void dueCut(String text, int n, int want) {
+        PlayCompany x = new PlayCompany();
+        Check.feedText(x, text);
+        Check.due("end(" + n + ")", x.end(n), n);
+        Check.due("terms() of the first " + n + " of '" + text + "'", x.terms(), want);
+    }
+
+    /** What stood behind the cut is not read on: neither letters, nor digits, nor the second byte of a sign. */
+    private static void cutTokens() {
+        dueCut("may if guest;", 2, fault(1, 0));
+        dueCut("mays", 3, fault(1, 3));
+        dueCut("may if guests", 12, fault(1, 12));
+        dueCut("may if age>=5;", 11, fault(1, 10));
+        dueCut("may if age>=5;", 12, fault(1, 12));
+        dueCut("most 1234567", 11, fault(1, 11));
+        dueCut("most 1234567", 12, fault(1, 5));
+        dueCut("may if guest;;", 13, 0);
+        dueCut("may if guest;may", 13, 0);
+        PlayCompany x = new PlayCompany();
+        x.actor(12, 0, 0, false);
+        Check.feedText(x, "may if fee<123");
+        x.end(13);
+        Check.feedText(x, ";");
+        Check.due("terms()", x.terms(), 0);
+        Check.due("fee 12 is not below 12", x.may(0, 0), 0);
+    }
+
     private static void hasLess() {
         PlayCompany x = new PlayCompany();
         Check.due("end(1) of an empty one", x.end(1), -1);
@@ -187,5 +215,12 @@ public final class TapeEdgesTest {
         Check.dueTerms(y, "z".repeat(800), fault(1, 0));
         Check.dueTerms(y, "most " + "7".repeat(795), fault(1, 5));
         Check.dueTerms(y, "may if " + "(".repeat(793), fault(2, 15));
+        PlayCompany z = new PlayCompany();
+        Check.dueTerms(z, " ".repeat(789) + "may if age>", fault(1, 799));
+        Check.dueTerms(z, " ".repeat(788) + "may if age>=", fault(1, 800));
+        Check.dueTerms(z, " ".repeat(789) + "most 123456", fault(1, 800));
+        Check.dueTerms(z, " ".repeat(788) + "most 1234567", fault(1, 793));
+        Check.dueTerms(z, " ".repeat(797) + "may", fault(1, 800));
+        Check.dueTerms(z, " ".repeat(799) + "m", fault(1, 799));
     }
 }
