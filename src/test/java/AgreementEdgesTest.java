@@ -9,6 +9,7 @@ public final class AgreementEdgesTest {
         Check.sentence("4: fee: FEE", AgreementEdgesTest::fee);
         Check.sentence("4: grade: the greatest GRADE", AgreementEdgesTest::grade);
         Check.sentence("4: roles: how many ROLES of the CAST AT HAND they have", AgreementEdgesTest::roles);
+        Check.sentence("4: roles, of 12 ACTORS, by how many have one", AgreementEdgesTest::rolesOfTwelve);
         Check.sentence("4: guest: whether they are one", AgreementEdgesTest::guest);
         Check.sentence("4: WHAT < NUMBER, WHAT >= NUMBER", AgreementEdgesTest::comparisons);
         Check.sentence("4: a NUMBER's digits", AgreementEdgesTest::digits);
@@ -151,6 +152,25 @@ public final class AgreementEdgesTest {
             Check.dueAbout(x, actor, 0, 6, 0);
         }
         Check.dueAbout(one(), 0, 0, 6, 0);
+    }
+
+    /** A cast's size must not be taken for an actor's role, so each size is asked of all twelve. */
+    private static void rolesOfTwelve() {
+        PlayCompany x = new PlayCompany();
+        x.play(1, 0, 0, 0);
+        for (int actor = 0; actor < 12; actor++) {
+            x.actor(1, 0, 0, false);
+            x.plays(actor, 0, 1);
+        }
+        Check.dueTerms(x, "pay 1 if roles>=1;", 0);
+        for (int size = 0; size <= 8; size++) {
+            Check.due("fit(0)", x.fit(0), size);
+            for (int actor = 0; actor < 12; actor++) {
+                Check.dueAbout(x, actor, 0, 6, actor < size ? 1 : 0);
+                Check.dueAbout(x, actor, 0, 7, actor < size ? 1 : 0);
+            }
+            x.role(0, 0, 1, false);
+        }
     }
 
     private static void guest() {

@@ -212,6 +212,7 @@ public final class TapeEdgesTest {
         Check.dueTerms(y, " \n".repeat(400), 0);
         Check.due("count(3)", y.count(3), 0);
         Check.dueTerms(y, ";".repeat(800), fault(1, 0));
+        Check.dueTerms(y, ";5".repeat(400), fault(1, 0));
         Check.dueTerms(y, "z".repeat(800), fault(1, 0));
         Check.dueTerms(y, "most " + "7".repeat(795), fault(1, 5));
         Check.dueTerms(y, "may if " + "(".repeat(793), fault(2, 15));

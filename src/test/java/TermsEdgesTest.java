@@ -142,6 +142,10 @@ public final class TermsEdgesTest {
         dueTerms("may if guesT;", fault(1, 7));
         dueTerms("may if age`<1;", fault(1, 10));
         dueTerms("may if age{<1;", fault(1, 10));
+        for (char letter = 'a'; letter <= 'z'; letter++) {
+            dueTerms("may if age" + letter + "<1;", fault(1, 7));
+            dueTerms("may if " + letter + "age<1;", fault(1, 7));
+        }
     }
 
     private static void numbers() {
