@@ -12,6 +12,7 @@ public final class AgreementEdgesTest {
         Check.sentence("4: roles, of 12 ACTORS, by how many have one", AgreementEdgesTest::rolesOfTwelve);
         Check.sentence("4: guest: whether they are one", AgreementEdgesTest::guest);
         Check.sentence("4: WHAT < NUMBER, WHAT >= NUMBER", AgreementEdgesTest::comparisons);
+        Check.sentence("4: WHAT: age | years | fee | grade | roles", AgreementEdgesTest::eachItsOwn);
         Check.sentence("4: a NUMBER's digits", AgreementEdgesTest::digits);
         Check.sentence("4: not F", AgreementEdgesTest::nots);
         Check.sentence("4: E: T { or T }, T: F { and F }", AgreementEdgesTest::orAndAnd);
@@ -200,6 +201,25 @@ public final class AgreementEdgesTest {
         dueMay(y, "age < 0", 0, 0);
         dueMay(y, "years < 0", -1, 1);
         dueMay(y, "years >= 0", 0, 1);
+    }
+
+    /** All five differ, so that none can stand for another. */
+    private static void eachItsOwn() {
+        PlayCompany x = new PlayCompany();
+        x.actor(40, -30 * 365, -20 * 365, false);
+        x.plays(0, 0, 7);
+        x.play(1, 0, 0, 0);
+        x.role(0, 0, 1, true);
+        x.role(0, 0, 1, true);
+        x.doubles(0, 0, 1);
+        Check.due("fit(0)", x.fit(0), 2);
+        String[] what = {"age", "years", "fee", "grade", "roles"};
+        int[] value = {30, 20, 40, 7, 2};
+        for (int i = 0; i < what.length; i++) {
+            dueMay(x, what[i] + " >= " + value[i], 0, 1);
+            dueMay(x, what[i] + " < " + value[i], 0, 0);
+            dueMay(x, what[i] + " < " + (value[i] + 1), 0, 1);
+        }
     }
 
     private static void digits() {
